@@ -33,6 +33,9 @@ public final class ChancesTest {
         share(three, 1, 1, 3);
         CenturyBeds bare = Due.made("BQ1153");
         share(bare, 0, 0, 1);
+        CenturyBeds six = Due.made("BQ0010Q0010Q0010Q0010Q0010Q0510");
+        share(six, 0, 1, 6);
+        share(six, 5, 31, 6);
     }
 
     private static void rests() {
@@ -45,6 +48,9 @@ public final class ChancesTest {
         CenturyBeds y = Due.made("BQ0060Q5580S01S11");
         due.is("far enough to flee", y.rests(0, 1, 6, 6, 0), 2);
         due.is("far enough to flee", y.rests(0, 1, 6, 6, 1), 5);
+        // Elsewhere it is 5 off, which sharing costs too: all pairs with cell 0 in them are at rest.
+        due.is("as dear to share as to flee", Due.made("BQ0010Q1560S01S11").rests(0, 1, 1, 1, 0), 11);
+        due.is("dearer to flee", Due.made("BQ0010Q1570S01S11").rests(0, 1, 1, 1, 0), 1);
         CenturyBeds z = Due.made("BS03S33");
         // Apart (0, 3), (3, 0), or so that neither gets away by itself: (1, 1), (1, 2), (2, 1), (2, 2).
         due.is("each in the other's way", z.rests(0, 1, 0, 0, 0), 6);
@@ -111,5 +117,21 @@ public final class ChancesTest {
         due.is("nothing changes", x.sleeper(0, 3), 0);
         CenturyBeds bare = Due.made("BS01S51");
         due.is("bare weeks", bare.weeks(30), 600);
+        drawnWeeks();
+    }
+
+    // The draws of these seeds were worked out apart from the class.
+    private static void drawnWeeks() {
+        CenturyBeds x = Due.made("BQ0530Q0540S01");
+        x.seed(205);
+        due.is("0 taken, twice; 1 tucked; 0 laid", x.weeks(4), 4 * 4);
+        x.seed(285);
+        due.is("0 taken, laid, tucked; 1 laid", x.weeks(4), 4 * 4);
+        x.take(1);
+        x.seed(156);
+        due.is("0 taken; 1 tucked; 0 taken; 1 laid", x.weeks(4), 10 + 3 * 4);
+        x.seed(117);
+        due.is("1 tucked; 0 taken; 1 laid, twice", x.weeks(4), 4 * 4);
+        due.is("nothing lies otherwise", x.count(4), 1);
     }
 }
