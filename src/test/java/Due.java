@@ -1,16 +1,29 @@
 /** Counts and prints answers that are not as due, and makes beds from texts. */
 final class Due {
     private final String test;
+    private String sentence = "";
     private int wrong;
 
     Due(String test) {
         this.test = test;
     }
 
+    /** What follows would fail if this sentence of the document were broken. */
+    void sentence(String told) {
+        sentence = " (\"" + told + "\")";
+    }
+
     void is(String call, long got, long want) {
         if (got != want) {
             wrong++;
-            System.out.println(test + ": " + call + " answered " + got + ", due is " + want);
+            System.out.println(test + ": " + call + " answered " + got + ", due is " + want + sentence);
+        }
+    }
+
+    void same(String what, String got, String want) {
+        if (!got.equals(want)) {
+            wrong++;
+            System.out.println(test + ": " + what + "\n  tells  " + got + "\n  due is " + want + sentence);
         }
     }
 
@@ -33,10 +46,16 @@ final class Due {
 
     static CenturyBeds made(String text) {
         CenturyBeds x = new CenturyBeds();
+        make(x, text);
+        return x;
+    }
+
+    /** The bed is made anew from another text. */
+    static void make(CenturyBeds x, String text) {
+        x.wipe();
         write(x, text);
         if (x.bed() < 0) {
             throw new IllegalStateException("the test's own text is no bed: " + text);
         }
-        return x;
     }
 }
