@@ -163,6 +163,9 @@ public final class ChanceEdgesTest {
         rests("BS02S33", 10, 10, 6, 2);
         // Two that lie in the middle can neither get away alone: (1, 1), (1, 2), (2, 1), (2, 2).
         rests("BS03S33", 10, 10, 6, 3);
+        // From cell 4 on the wider one would find 3, did it not hang off the bed there.
+        rests("BQ0000Q1190Q2200Q3490Q5530S01S13", 0, 0, 1, 50);
+        rests("BQ0000Q1190Q2200Q3490Q5530S13S01", 0, 0, 1, 5);
         due.sentence("RESTS of two SLEEPERS");
         due.is("a third one is in nobody's way", Due.made("BS01S11S21").rests(0, 1, 10, 10, 0), 30);
         due.is("nor any of three", Due.made("BS01S11S21").rests(2, 0, 10, 10, 1), 1);

@@ -179,6 +179,7 @@ public final class PlanEdgesTest {
         due.is("of five", x.orders(0, 5, true), 51234);
         x.tuck(5);
         due.is("whatever order they lie in now", x.orders(0, 1, true), 123456);
+        due.is("whatever order they lie in now, how many", x.orders(0, 1, false), 120);
         due.is("the last blanket lowest", x.orders(0, 6, true), 612345);
         x.take(0);
         due.is("without the first one", x.orders(0, 2, true), 23456);
